@@ -32,6 +32,7 @@ public final class ChangesTest {
         promise10CountsWhileNoClaimStands();
         promise10Lapse();
         promise10LapseAndFallOfOneDay();
+        promise10TwelveLotsAndThirtyClaims();
         promise10SinceTheFall();
         promise10PassErrors();
         promise10LastDay();
@@ -566,6 +567,21 @@ public final class ChangesTest {
         Due.carry(y, "l10;n0;t4;c1@0/1;t1;c2@0/1");
         Due.due("10: the last claim counts", y.pass(2), 0);
         Due.due("10: it lapses a day later", y.pass(1), 1);
+    }
+
+    static void promise10TwelveLotsAndThirtyClaims() {
+        EscheatLots x = Due.after(ChangesTest::thirtyClaims);
+        for (int lot = 0; lot < 12; lot++) {
+            Due.due("10: notice of twelve", x.notice(lot), lot + 1);
+        }
+        x.set(Due.TERM, 20);
+        Due.due("10: claims to all twelve", x.pass(108), 0);
+        Due.due("10: all claims have lapsed", x.count(12), 0);
+        Due.due("10: all twelve fall", x.pass(1), 12);
+        Due.due("10: all twelve have fallen", x.count(6), 4095);
+        Due.due("10: the crown has all values", x.count(10), 1266);
+        x.pass(2);
+        Due.due("10: days since the fall of the last one", x.of(11, 3), 2);
     }
 
     static void promise10SinceTheFall() {

@@ -10,6 +10,7 @@ public final class UndoSaveTest {
         promise26Save();
         promise26Errors();
         promise27Restore();
+        promise27OtherLotsAndClaims();
         promise27IsAChange();
         promise27Settings();
         promise27Errors();
@@ -172,6 +173,26 @@ public final class UndoSaveTest {
         x.settle(1);
         Due.due("27: the slot keeps it", x.restore(1), 5);
         Due.due("27: the slot keeps it", x.count(0), 8);
+    }
+
+    /** All that tells two offices apart is restored, also where both have as many lots, claims and heirs. */
+    static void promise27OtherLotsAndClaims() {
+        String first = "l10;c1@0/1;p0+60;d0;s0;l20;c2@1/2;c3@1/2";
+        String other = "t2;l30;l40;c4@1/3;p0+70;d0;s1;c5@0/4;p1+2;t3;c6@0/5;n0";
+        EscheatLots x = new EscheatLots();
+        x.save(0);
+        Due.carry(x, first);
+        String wanted = Due.known(x);
+        x.save(1);
+        x.restore(0);
+        Due.carry(x, other);
+        Due.due("27: lots, claims and heirs are others", Due.known(x).equals(wanted) ? 1 : 0, 0);
+        x.restore(1);
+        Due.due("27: all of it is restored", Due.known(x), wanted);
+        x.undo();
+        x.undo();
+        x.undo();
+        Due.due("25: all of it is undone", Due.known(x), wanted);
     }
 
     static void promise27IsAChange() {
