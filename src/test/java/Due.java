@@ -7,14 +7,37 @@ final class Due {
         BACK = EscheatLots.BACK, FEE = EscheatLots.FEE;
     static final int[] FAR = {Integer.MIN_VALUE, -1000000, -33, -7, -6, -5, -2, -1, 512, 65536, 1 << 30, Integer.MAX_VALUE};
 
+    private static final int LONGEST_SECONDS = 300;
+
     private static int wrong = 0;
     private static int compared = 0;
+
+    // A call that does not end has to fail its test, too, and not to hold up all the others.
+    static {
+        Thread watch = new Thread(Due::failInTheEnd);
+        watch.setDaemon(true);
+        watch.start();
+    }
 
     private Due() {
     }
 
+    private static void failInTheEnd() {
+        try {
+            Thread.sleep(LONGEST_SECONDS * 1000L);
+        } catch (InterruptedException nobodyInterruptsThis) {
+            return;
+        }
+        System.out.println("the test has not ended within " + LONGEST_SECONDS + " seconds");
+        Runtime.getRuntime().halt(1);
+    }
+
     interface Steps {
         void on(EscheatLots x);
+    }
+
+    interface Call {
+        int on(EscheatLots x);
     }
 
     static void due(String call, long got, long want) {
@@ -93,13 +116,15 @@ final class Due {
         for (int what = 0; what <= 18; what++) {
             all.append(x.count(what)).append(' ');
         }
-        for (int lot = 0; lot < x.count(1); lot++) {
+        int lots = Math.min(x.count(1), 12);
+        for (int lot = 0; lot < lots; lot++) {
             all.append(" lot");
             for (int what = 0; what <= 6; what++) {
                 all.append(' ').append(x.of(lot, what));
             }
         }
-        for (int claim = 0; claim < x.count(2); claim++) {
+        int claims = Math.min(x.count(2), 30);
+        for (int claim = 0; claim < claims; claim++) {
             all.append(" claim");
             for (int what = 0; what <= 6; what++) {
                 all.append(' ').append(x.ofClaim(claim, what));
@@ -112,7 +137,7 @@ final class Due {
             }
         }
         all.append(" paid");
-        for (int rank = 0; x.paid(rank) >= 0; rank++) {
+        for (int rank = 0; rank <= 16 && x.paid(rank) >= 0; rank++) {
             all.append(' ').append(x.paid(rank));
         }
         return all.toString();
@@ -126,13 +151,35 @@ final class Due {
         };
         int changes = after(before).count(20);
         for (int undone = 0; undone <= changes; undone++) {
-            EscheatLots as = after(before);
-            EscheatLots is = after(both);
-            for (int i = 0; i < undone; i++) {
-                as.undo();
-                is.undo();
-            }
-            due(name + ", then " + undone + " undone", all(is), all(as));
+            int times = undone;
+            sameBehind(name + ", then " + undone + " undone", before, both, x -> {
+                for (int i = 0; i < times; i++) {
+                    x.undo();
+                }
+                return x.count(20);
+            });
+        }
+        sameBehind(name + ", then carryOut()", before, both, EscheatLots::carryOut);
+    }
+
+    private static void sameBehind(String name, Steps before, Steps both, Call probe) {
+        EscheatLots as = after(before);
+        EscheatLots is = after(both);
+        int want = probe.on(as);
+        due(name, probe.on(is), want);
+        due(name, all(is), all(as));
+    }
+
+    /** A call is refused with an error, and nothing is different behind it; what is in the slots neither. */
+    static void refused(String name, Steps before, Call call, int error) {
+        due(name, call.on(after(before)), error);
+        changesNothing(name, before, call::on);
+        for (int slot = 0; slot <= 1; slot++) {
+            int which = slot;
+            sameBehind(name + ", then restore(" + slot + ")", before, x -> {
+                before.on(x);
+                call.on(x);
+            }, x -> x.restore(which));
         }
     }
 

@@ -17,27 +17,39 @@ public final class UndoSaveTest {
         Due.end();
     }
 
+    /** The first of four changes, and a refused call behind them. */
+    static Due.Steps changes(int howMany) {
+        Due.Steps[] four = {
+            x -> x.set(Due.TERM, 2),
+            x -> Due.carry(x, "l10;n0;c1@0/1;c2@0/1;p0+80;d0;p1+90;d1"),
+            x -> x.settle(0),
+            x -> Due.carry(x, "l10;n1;t5"),
+        };
+        return x -> {
+            for (int i = 0; i < howMany; i++) {
+                four[i].on(x);
+            }
+            x.notice(1);
+        };
+    }
+
     static void promise25Undo() {
-        EscheatLots x = new EscheatLots();
-        Due.due("25: nothing to undo", x.undo(), Due.NOT_POSSIBLE);
-        String[] states = new String[6];
-        states[0] = Due.known(x);
-        x.set(Due.TERM, 2);
-        states[1] = Due.known(x);
-        Due.carry(x, "l10;n0;c1@0/1;c2@0/1;p0+80;d0;p1+90;d1");
-        states[2] = Due.known(x);
-        x.settle(0);
-        states[3] = Due.known(x);
-        Due.carry(x, "l10;n1;t5");
-        states[4] = Due.known(x);
-        x.notice(1);
-        Due.due("25: an error is no change", x.count(20), 4);
+        EscheatLots nothing = new EscheatLots();
+        Due.due("25: nothing to undo", nothing.undo(), Due.NOT_POSSIBLE);
+        Due.due("25: an error is no change", Due.after(changes(4)).count(20), 4);
         for (int left = 3; left >= 0; left--) {
-            Due.due("25: undo()", x.undo(), left);
-            Due.due("25: state " + left, Due.known(x), states[left]);
+            EscheatLots x = Due.after(changes(4));
+            for (int i = 3; i >= left; i--) {
+                Due.due("25: undo()", x.undo(), i);
+            }
+            Due.due("25: state " + left, Due.known(x), Due.known(Due.after(changes(left))));
+        }
+        EscheatLots x = Due.after(changes(4));
+        for (int i = 0; i < 4; i++) {
+            x.undo();
         }
         Due.due("25: nothing is left", x.undo(), Due.NOT_POSSIBLE);
-        Due.due("25: it changes nothing", Due.known(x), states[0]);
+        Due.due("25: it changes nothing", Due.known(x), Due.known(nothing));
     }
 
     static void promise25SixStates() {
@@ -179,20 +191,24 @@ public final class UndoSaveTest {
     static void promise27OtherLotsAndClaims() {
         String first = "l10;c1@0/1;p0+60;d0;s0;l20;c2@1/2;c3@1/2";
         String other = "t2;l30;l40;c4@1/3;p0+70;d0;s1;c5@0/4;p1+2;t3;c6@0/5;n0";
-        EscheatLots x = new EscheatLots();
-        x.save(0);
-        Due.carry(x, first);
-        String wanted = Due.known(x);
-        x.save(1);
-        x.restore(0);
-        Due.carry(x, other);
-        Due.due("27: lots, claims and heirs are others", Due.known(x).equals(wanted) ? 1 : 0, 0);
+        String wanted = Due.known(Due.after(x -> Due.carry(x, first)));
+        Due.Steps both = x -> {
+            x.save(0);
+            Due.carry(x, first);
+            x.save(1);
+            x.restore(0);
+            Due.carry(x, other);
+        };
+        Due.due("27: lots, claims and heirs are others", Due.known(Due.after(both)).equals(wanted) ? 1 : 0, 0);
+        EscheatLots x = Due.after(both);
         x.restore(1);
         Due.due("27: all of it is restored", Due.known(x), wanted);
-        x.undo();
-        x.undo();
-        x.undo();
-        Due.due("25: all of it is undone", Due.known(x), wanted);
+        EscheatLots y = Due.after(both);
+        y.restore(1);
+        y.undo();
+        y.undo();
+        y.undo();
+        Due.due("25: all of it is undone", Due.known(y), wanted);
     }
 
     static void promise27IsAChange() {
